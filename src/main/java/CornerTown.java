@@ -545,8 +545,8 @@ public final class CornerTown {
         int size = 0;
 
         Pairs(int room) {
-            first = new int[room];
-            second = new int[room];
+            first = new int[Math.max(0, room)];
+            second = new int[Math.max(0, room)];
         }
 
         boolean isFull() {
@@ -799,6 +799,22 @@ public final class CornerTown {
 
         /** The law in the first bytes of the text, or null and the place of the fault. */
         Law read(int bytes) {
+            begin(bytes);
+            for (int n = 0; n < Law.MOST_CLAUSES && readClause(n); n++) {
+                if (token == END) {
+                    fault = NONE;
+                    return new Law(steps, ends, kinds, clauses, namesDay);
+                }
+                if (!isSign(';')) {
+                    break;
+                }
+                goOn();
+            }
+            fault = place;
+            return null;
+        }
+
+        private void begin(int bytes) {
             length = Math.max(0, Math.min(bytes, text.length));
             behind = 0;
             size = 0;
@@ -806,12 +822,6 @@ public final class CornerTown {
             clauses = 0;
             namesDay = false;
             goOn();
-            if (!readClauses()) {
-                fault = place;
-                return null;
-            }
-            fault = NONE;
-            return new Law(steps, ends, kinds, clauses, namesDay);
         }
 
         int faultPlace() {
@@ -872,22 +882,6 @@ public final class CornerTown {
             if (step >= 0 && step < steps.length) {
                 steps[step] = kind * Law.STEP + size;
             }
-        }
-
-        private boolean readClauses() {
-            for (int n = 0; n < Law.MOST_CLAUSES; n++) {
-                if (!readClause(n)) {
-                    return false;
-                }
-                if (token == END) {
-                    return true;
-                }
-                if (!isSign(';')) {
-                    return false;
-                }
-                goOn();
-            }
-            return false;
         }
 
         private boolean readClause(int number) {
@@ -1752,6 +1746,8 @@ public final class CornerTown {
 
     /** Rounds of errands: the least from each house with each rest of them still to be done. */
     static final class Rounds {
+        private static final int LONGEST_ROUND = 1000000;
+
         private final Town town;
         private final Streets streets;
         private final int[] errands = new int[HOUSES];
@@ -1854,7 +1850,7 @@ public final class CornerTown {
             if (rest == 0) {
                 return timeBetween(at, size);
             }
-            int best = Integer.MAX_VALUE;
+            int best = LONGEST_ROUND;
             for (int next = 0; next < size; next++) {
                 if (bitOf(rest, next) == 1) {
                     best = Math.min(best, timeBetween(at, next) + leastAt(rest & ~(1 << next), next));
