@@ -339,7 +339,7 @@ public final class CornerTown {
     }
 
     public int news(int at, int house) {
-        if (!town.has(house)) {
+        if (!town.has(house) || !town.areHouses(at)) {
             return NONE;
         }
         return gossip.firstDay(streets.openRows(), at, house);
@@ -593,6 +593,11 @@ public final class CornerTown {
 
         boolean has(int house) {
             return house >= 0 && house < houses;
+        }
+
+        /** Whether each bit is that of a house, one that stands or one that is burnt down. */
+        boolean areHouses(int bits) {
+            return (bits & ~((1 << houses) - 1)) == 0;
         }
 
         boolean hasTwo(int one, int other) {

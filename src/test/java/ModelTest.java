@@ -1065,7 +1065,7 @@ public final class ModelTest {
         }
 
         int news(int at, int h) {
-            return is(h) ? newsDays(at)[h] : -1;
+            return is(h) && at >= 0 && at < 1 << houses.size() ? newsDays(at)[h] : -1;
         }
 
         int log(int h, int theDay) {

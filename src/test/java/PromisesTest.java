@@ -641,7 +641,13 @@ public final class PromisesTest {
         due("news of none", t.news(0, 3), -1);
         due("no such", t.news(1, 6), -1);
         due("no such", t.news(1, -1), -1);
-        due("bits of no house", t.news(1 << 6 | 1, 3), 2);
+        due("all houses", t.news(63, 3), 0);
+        due("a bit of no house", t.news(1 << 6 | 1, 3), -1);
+        due("a bit of no house, at itself", t.news(1 << 6 | 1, 0), -1);
+        due("a bit of no house alone", t.news(1 << 6, 0), -1);
+        due("a bit beyond houses", t.news(1 << 12 | 1, 0), -1);
+        due("the highest bit", t.news(1 << 31 | 1, 0), -1);
+        due("below 0", t.news(-1, 0), -1);
         inForce(t, "bars if from < 1");
         due("barred", t.news(1, 5), -1);
         due("barred, at itself", t.news(1, 0), 0);
@@ -650,6 +656,7 @@ public final class PromisesTest {
         due("burnt ones do not count", t.news(1, 0), -1);
         due("burnt ones do not count", t.news(1, 3), -1);
         due("burnt ones do not count", t.news(1 + 2, 3), 1);
+        due("a burnt one, and a bit of no house", t.news(1 + 2 + 64, 3), -1);
         due("to a burnt one", t.news(2, 0), -1);
         inForce(t, "bars if hour > 12 or day > 5");
         due("hour, day as told", t.news(2, 5), 3);
