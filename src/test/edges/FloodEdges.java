@@ -15,6 +15,7 @@ final class FloodEdges {
         water();
         daysOfFloods();
         imagesKeep();
+        imagesApart();
         imagesDoNotKeep();
         twoImages();
         promisesOfFloods();
@@ -84,6 +85,18 @@ final class FloodEdges {
         Edge.says("IV", IMAGES, Edge.rows(Edge.apart(3), "wish 0 1 1", "wish 0 2 0", "log 1 1", "image 0", "clear -> 2", "forget -> 1", "wish 2 1 1",
             "wish 2 0 1", "log 0 0", "log 0 0", "back 0 -> 0", "count 4 -> 1", "count 5 -> 1", "count 6 -> 1", "doors 1 -> 0",
             "doors 2 -> 1", "doors 5 -> 1", "fits 0 1 -> 1", "fits 0 3 -> 1", "wrong 0 -> 1", "clear -> 2", "forget -> 1"));
+    }
+
+    /** Two towns with nothing in common, each in its image. */
+    private static void imagesApart() {
+        Edge.says("IV", IMAGES, Edge.rows("image 0", "house 0 0 3 2 5", "house 3 2 1 3 6", "house 5 0 1 1 0", "law |takes 40|", "law |takes 41|",
+            "force 1", "door 0 2", "door 1 2", "wish 0 1 0", "log 1 1", "visits 0 -> 6", "image 1", "back 0", "count 0 -> 0", "count 2 -> 0",
+            "count 3 -> 0", "house 6 5 1 3 1", "house 5 4 1 1 2", "law |takes 50|", "force 0", "wish 1 0 1", "wish 1 0 0", "log 0 4",
+            "log 0 3", "visits 0 -> 2", "count 2 -> 0", "image 0", "back 1", "of 0 0 -> 0", "of 0 1 -> 0", "of 0 2 -> 3", "of 0 3 -> 2",
+            "of 0 4 -> 5", "of 1 0 -> 3", "of 1 1 -> 2", "of 1 2 -> 1", "of 1 3 -> 3", "at 2 1 -> 0", "at 6 5 -> -1", "visits 0 -> 6",
+            "visit 0 1 1 -> 41", "force 0 -> 1", "visit 0 1 1 -> 40", "count 2 -> 2", "doors 0 -> -1", "wrong 0 -> 0", "count 3 -> 2",
+            "back 0", "of 0 0 -> 6", "of 0 1 -> 5", "of 0 2 -> 1", "of 0 3 -> 3", "of 0 4 -> 1", "of 2 0 -> -1", "visits 0 -> 2",
+            "visit 0 1 1 -> 50", "count 2 -> 0", "count 4 -> 1", "count 5 -> 1", "wrong 0 -> 2", "door 0 1 -> 1"));
     }
 
     private static void imagesDoNotKeep() {

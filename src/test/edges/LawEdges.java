@@ -149,6 +149,11 @@ final class LawEdges {
         so(ONLY_IF, "1=1 or 1/0=1 and 1/0=1", 1);
         so(ONLY_IF, "not (not 1=1 and 1/0=1)", 1);
         so(ONLY_IF, "(1=1 or 1/0=1) and (1=1 or 1/0=1)", 1);
+        takes(ONLY_IF, "takes 8 if not (1=2 and 3=4)", 8);
+        takes(ONLY_IF, "takes 8 if 1=1 or 3=4", 8);
+        takes(ONLY_IF, "takes 8 if 1=2 and 3=4 or 5=5", 8);
+        takes(ONLY_IF, "takes 8+1 if not (1=2 and 3=3) and (4=4 or 5=6)", 9);
+        takes(ONLY_IF, "takes 0+0 if not (1=2 and 3=3)", 1);
         broken(ONLY_IF, "1=2 or 1/0=1");
         broken(ONLY_IF, "1=1 and 1/0=1");
         broken(ONLY_IF, "1/0=1 or 1=1");

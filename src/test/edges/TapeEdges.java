@@ -152,6 +152,13 @@ final class TapeEdges {
         fault(letters, "takes 0if 0=0", -1);
         fault(letters, "bars if area = yard", -1);
         fault(letters, "bars if a = z", 8);
+        fault(letters, "barsa", 0);
+        fault(letters, "barsz", 0);
+        fault(letters, "bars z", 5);
+        fault(letters, "takes 1z", 7);
+        fault(letters, "takes 0z", 7);
+        fault(letters, "takes z0", 6);
+        fault(letters, "takes a9", 6);
         fault(letters, "Bars", 0);
         fault(letters, "bArs", 0);
         fault(letters, "bars If 1=1", 5);
@@ -292,6 +299,25 @@ final class TapeEdges {
         for (String word : new String[] {"if", "not", "or", "and", "takes", "bars", "x", "form", "toe", "dry"}) {
             fault(part, "takes " + word, 6);
         }
+        // A word is its letters, the first and the last among them.
+        for (String word : words) {
+            String rest = word.substring(1);
+            String start = word.substring(0, word.length() - 1);
+            fault(part, "takes x" + rest, 6);
+            fault(part, "takes " + start + "x", 6);
+        }
+        for (String text : new String[] {"cars", "barz", "makes 1", "taken 1"}) {
+            fault("CLAUSE: (\"takes\" SUM | \"bars\") [\"if\" TEST]", text, 0);
+        }
+        for (String text : new String[] {"bars of 1=1", "bars is 1=1"}) {
+            fault("CLAUSE: (\"takes\" SUM | \"bars\") [\"if\" TEST]", text, 5);
+        }
+        for (String text : new String[] {"bars if 1=1 er 1=1", "bars if 1=1 on 1=1", "bars if 1=1 end 1=1", "bars if 1=1 any 1=1"}) {
+            fault("TEST: BOTH {\"or\" BOTH}", text, 12);
+        }
+        for (String text : new String[] {"bars if got 1=1", "bars if now 1=1"}) {
+            fault("BOTH: PLAIN {\"and\" PLAIN}", text, 8);
+        }
     }
 
     private static void numbersAndParts() {
@@ -320,6 +346,11 @@ final class TapeEdges {
         fault(fifty, "takes 1" + many(49, "+1") + "+1001", 106);
         fault(fifty, "takes 1" + many(49, "+1") + "+x", 106);
         fault(fifty, "takes 1" + many(49, "+1") + "+", 106);
+        // The next text is counted anew, also behind one with a fault.
+        String fiftyParts = "takes 1" + many(49, "+1");
+        Edge.says("II", fifty, "law |" + fiftyParts + "| -> 0", "law |" + fiftyParts + "| -> 1", "law |" + fiftyParts + "+1| -> -6",
+            "fault -> 106", "law |" + fiftyParts + "| -> 2", "law |x| -> -6", "law |" + many(11, "bars;") + "bars| -> 3",
+            "law |" + many(11, "bars;") + "bars| -> 4");
         Edge.says("II", fifty, Edge.rows(Edge.line(2), "law |takes 1" + many(49, "+1") + "|", "force 0", "visit 0 1 1 -> 50"));
     }
 

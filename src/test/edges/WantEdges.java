@@ -136,6 +136,9 @@ final class WantEdges {
         Edge.says("III", FITS, Edge.rows(Edge.apart(12), "fits 11 1 -> 66", "door 0 1", "fits 11 1 -> 65", "fits 11 2 -> 0", "fits 11 3 -> 2",
             "door 0 2", "door 0 3", "door 0 4", "door 0 5", "door 0 6", "fits 11 1 -> 60", "fits 11 3 -> 7", "log 11 0",
             "fits 11 0 -> 1", "fits 11 1 -> 60", "log 10 1", "fits 11 0 -> 0", "fits 11 1 -> 1", "fits 11 2 -> 10", "fits 11 3 -> 11"));
+        // A door to one that is burnt down carries nothing, and one from it neither.
+        Edge.says("III", FITS, Edge.rows(Edge.apart(3), "stand 2 0", "log 2 1", "fits 0 0 -> 0", "fits 0 1 -> 0", "fits 0 2 -> -1", "forget",
+            "log 2 0", "fits 2 0 -> 0", "fits 2 1 -> 0", "forget", "log 1 1", "fits 2 1 -> 0", "fits 0 1 -> 1"));
         Edge.says("III", FITS, Edge.rows(Edge.line(2), "log 1 -1", "fits 0 0 -> 0", "fits 0 1 -> 0", "law |bars if door=1|", "force 0",
             "fits 0 0 -> 0", "fits 0 1 -> 1", "fits 0 2 -> 0", "fits 0 3 -> 1", "law |bars if door=0|", "force 1", "fits 0 0 -> 1",
             "fits 0 1 -> 0", "fits 0 2 -> -1"));
@@ -236,11 +239,15 @@ final class WantEdges {
         Edge.says("29", "-2", Edge.rows(Edge.apart(2), "log 2 0 -> -2", "log -1 0 -> -2", "log 12 0 -> -2", "log 2147483647 0 -> -2",
             "count 6 -> 0", "log 1 0 -> 1"));
         Edge.says("29", "-5", Edge.rows(Edge.apart(2), Edge.times(7, "log 0 0"), "log 1 0 -> 8", "log 1 0 -> -5", "count 6 -> 8"));
+        Edge.says("30", "LOGS are none then: how many there were", Edge.rows(Edge.apart(3), "log 1 1", "fits 0 0 -> 0", "fits 0 1 -> 1",
+            "forget -> 1", "fits 0 0 -> 1", "fits 0 1 -> 3"));
         Edge.says("30", "LOGS are none then: how many there were", Edge.rows("forget -> 0", Edge.apart(2), Edge.times(8, "log 0 5"), "wrong 0 -> 8",
             "forget -> 8", "count 6 -> 0", "wrong 0 -> 0", "forget -> 0", "log 0 5 -> 1", "forget -> 1"));
         Edge.says("31", "How many LOGS are not so, the NEWS being at a HOUSE, with the DOORS there are", Edge.rows(Edge.apart(3), "wrong 0 -> 0",
             "log 0 0", "log 1 1", "log 2 -1", "wrong 0 -> 1", "door 0 1", "wrong 0 -> 0", "door 1 2", "wrong 0 -> 1", "wrong 1 -> 3",
             "wall 0 1", "wrong 0 -> 1", "wrong 2 -> 2"));
+        Edge.says("31", "How many LOGS are not so, the NEWS being at a HOUSE, with the DOORS there are", Edge.rows(Edge.apart(12), "log 11 0",
+            "log 11 -1", "wrong 11 -> 1", "wrong 0 -> 1", "door 0 11", "log 11 1", "wrong 0 -> 2", "log 0 1", "wrong 11 -> 2"));
         Edge.says("31", "NONE", Edge.rows(Edge.apart(2), "log 0 0", "wrong 2 -> -1", "wrong -1 -> -1", "wrong 12 -> -1",
             "wrong 2147483647 -> -1", "wrong -2147483648 -> -1", "wrong 1 -> 1"));
     }
@@ -248,7 +255,7 @@ final class WantEdges {
     private static void promisesOfFits() {
         Edge.says("32", "FITS: whether no DOOR more does (what 0: 1, 0), by how many single DOORS more (1), HOUSES of the first such (2, 3)",
             Edge.rows(Edge.apart(4), "log 3 1", "fits 0 0 -> 0", "fits 0 1 -> 1", "fits 0 2 -> 0", "fits 0 3 -> 3", "fits 2 2 -> 2",
-            "fits 2 3 -> 3", "door 0 3", "fits 0 0 -> 1", "fits 0 1 -> 5", "fits 0 2 -> 0", "fits 0 3 -> 1", "count 2 -> 1"));
+            "fits 2 3 -> 3", "fits 0 4 -> -1", "fits 0 -1 -> -1", "door 0 3", "fits 0 0 -> 1", "fits 0 1 -> 5", "fits 0 2 -> 0", "fits 0 3 -> 1", "count 2 -> 1"));
         Edge.says("32", "NONE (none, for 2, 3)", Edge.rows(Edge.apart(4), "log 3 3", "fits 0 0 -> 0", "fits 0 1 -> 0", "fits 0 2 -> -1",
             "fits 0 3 -> -1", "fits 0 4 -> -1", "fits 0 -1 -> -1", "fits 4 0 -> -1", "fits -1 0 -> -1", "fits 12 1 -> -1",
             "fits 4 1 -> -1", "fits 2147483647 0 -> -1", "fits 0 2147483647 -> -1", "fits 0 -2147483648 -> -1"));
@@ -259,6 +266,8 @@ final class WantEdges {
     private static void promisesOfRounds() {
         Edge.says("33", "A ROUND: what it TAKES", Edge.rows(Edge.line(3), "round 0 0 -> 0", "round 0 2 -> 2", "round 0 4 -> 4", "round 0 6 -> 4",
             "round 1 5 -> 4", "law |takes 99|", "force 0", "round 0 6 -> 396", "round 1 5 -> 396", "round 1 0 -> 0"));
+        Edge.says("33", "A ROUND: what it TAKES", Edge.rows(Edge.line(4), "round 0 8 -> 6", "round 1 8 -> 4", "round 2 8 -> 2", "round 2 9 -> 6",
+            "round 3 9 -> -1", "round 2 9 -> 6", "round 2 1 -> 4", "door 0 2", "round 2 1 -> 2", "wall 0 2", "round 2 1 -> 4"));
         String none = "NONE (one does not COME to all and home, home is one of them)";
         Edge.says("33", none, Edge.rows(Edge.line(3), "house 7 0 1 1 0", "round 0 1 -> -1", "round 0 3 -> -1", "round 0 7 -> -1",
             "round 1 2 -> -1", "round 0 8 -> -1", "round 0 10 -> -1", "round 0 16 -> -1", "round 0 18 -> -1", "round 0 4098 -> -1",
@@ -268,6 +277,8 @@ final class WantEdges {
             "round 0 2 -> -1"));
         Edge.says("33", none, Edge.rows(Edge.line(3), "law |bars if to=0|", "law |bars if from=0|", "force 0", "round 0 2 -> -1", "round 0 0 -> 0",
             "round 1 4 -> 2", "force 1", "round 0 2 -> -1", "round 1 1 -> -1", "round 1 4 -> 2"));
+        Edge.says("34", "The i-th HOUSE of the first order of a ROUND (home aside)", Edge.rows(Edge.line(3), "stop 0 4 0 -> 2", "stand 1 0",
+            "stop 0 4 0 -> -1", "stand 1 1", "stop 0 4 0 -> 2", "stop 1 4 0 -> 2", "stop 1 5 0 -> 0", "stop 1 5 1 -> 2"));
         Edge.says("34", "The i-th HOUSE of the first order of a ROUND (home aside)", Edge.rows(Edge.line(4), "stop 0 14 0 -> 1", "stop 0 14 1 -> 2",
             "stop 0 14 2 -> 3", "stop 1 13 0 -> 0", "stop 1 13 1 -> 2", "stop 1 13 2 -> 3", "stop 3 3 0 -> 0", "stop 3 3 1 -> 1"));
         Edge.says("34", "NONE", Edge.rows(Edge.line(4), "stop 0 14 3 -> -1", "stop 0 14 -1 -> -1", "stop 0 0 0 -> -1", "stop 0 1 0 -> -1",

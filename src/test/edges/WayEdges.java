@@ -148,6 +148,8 @@ final class WayEdges {
             "holders 0 9 -> -1", "door 0 9", "holders 0 9 -> 0", "holders 3 0 -> 576"));
         Edge.says("III", holder, Edge.rows(longest(), "holders 0 11 -> 2046", "holders 11 0 -> 2046", "holders 0 10 -> 1022",
             "holders 10 11 -> 0"));
+        Edge.says("III", holder, Edge.rows(Edge.apart(12), "door 0 1", "door 0 2", "door 11 2", "door 11 3", "holders 1 2 -> 1",
+            "holders 2 3 -> 2048", "holders 1 3 -> 2053"));
         // Only the ways from the first to the other count.
         Edge.says("III", holder, Edge.rows(chain(), "law |bars if to=1 and from=0|", "force 0", "holders 0 9 -> 76",
             "holders 9 0 -> 72"));
@@ -200,16 +202,24 @@ final class WayEdges {
             + " how many VISITS that has (3)", Edge.rows(chain(), "door 0 3", "law |takes 9 if door=1|", "force 0",
             "comes 0 3 0 -> 1", "comes 0 3 1 -> 1", "comes 0 3 2 -> 2", "comes 0 3 3 -> 2", "comes 3 0 0 -> 1", "stand 1 0",
             "stand 2 0", "comes 0 3 2 -> 9", "comes 0 3 3 -> 1", "stand 3 0", "comes 0 3 1 -> 0"));
+        for (int what = 0; what < 4; what++) {
+            int[] due = {2, 1, 10, 2};
+            Edge.says("20", "NONE (one does not COME there, for 0, 2, 3)", Edge.rows(Edge.line(3), "law |takes 5|", "force 0",
+                "comes 0 2 " + what + " -> " + due[what], "stand 2 0", "comes 0 2 " + what + " -> " + (what == 1 ? 0 : -1)));
+        }
         Edge.says("20", "NONE (one does not COME there, for 0, 2, 3)", Edge.rows(Edge.apart(2), "comes 0 1 0 -> -1",
             "comes 0 1 1 -> 0", "comes 0 1 2 -> -1", "comes 0 1 3 -> -1", "comes 0 1 4 -> -1", "comes 0 1 -1 -> -1",
             "comes 0 0 4 -> -1", "comes 0 2 0 -> -1", "comes 0 2 1 -> -1", "comes 2 0 1 -> -1", "comes -1 0 1 -> -1",
             "comes 0 -1 2 -> -1", "comes 12 12 3 -> -1", "comes 2 2 1 -> -1", "comes 0 0 2147483647 -> -1",
             "comes 2147483647 0 1 -> -1", "comes 0 -2147483648 1 -> -1"));
         Edge.says("21", "The i-th HOUSE of the SHORTEST (from first)", Edge.rows(Edge.line(3), "way 0 2 0 -> 0", "way 0 2 1 -> 1",
-            "way 0 2 2 -> 2", "way 2 0 0 -> 2", "way 1 1 0 -> 1"));
+            "way 0 2 2 -> 2", "way 2 0 0 -> 2", "way 2 0 1 -> 1", "way 2 0 2 -> 0", "way 1 1 0 -> 1"));
+        Edge.says("21", "The i-th HOUSE of the SHORTEST (from first)", Edge.rows(Edge.apart(3), "door 0 1", "door 0 2", "way 1 2 1 -> 0",
+            "way 1 2 2 -> 2", "way 2 1 1 -> 0"));
         Edge.says("21", "NONE", Edge.rows(Edge.line(3), "house 7 0 1 1 0", "way 0 2 3 -> -1", "way 0 2 -1 -> -1", "way 1 1 1 -> -1",
             "way 1 1 -1 -> -1", "way 0 3 0 -> -1", "way 0 3 -1 -> -1", "way 0 4 0 -> -1", "way 4 0 0 -> -1", "way 4 4 0 -> -1",
-            "way -1 0 0 -> -1", "way 0 2 2147483647 -> -1", "way 0 2 -2147483648 -> -1", "stand 0 0", "way 0 0 0 -> -1",
+            "way -1 0 0 -> -1", "way 0 -1 0 -> -1", "way 0 12 0 -> -1", "way 12 0 0 -> -1",
+            "way 2147483647 0 0 -> -1", "way 0 -2147483648 0 -> -1", "way 0 2 2147483647 -> -1", "way 0 2 -2147483648 -> -1", "stand 0 0", "way 0 0 0 -> -1",
             "way 0 1 0 -> -1", "way 1 0 0 -> -1"));
     }
 

@@ -14,6 +14,7 @@ public final class EdgesTest {
         WayEdges.ask();
         WantEdges.ask();
         FloodEdges.ask();
+        ChangeEdges.ask();
         Path document = Path.of("../shared/DOC.md");
         if (Files.exists(document)) {
             Edge.compareWith(document);
