@@ -82,6 +82,11 @@ final class WantEdges {
         // A pair that has a door is none of those that can be picked.
         Edge.says("III", NEW_DOORS, Edge.rows(Edge.apart(3), "door 0 1", "wish 0 2 1", answers(1, 0, 2, -1, -1, 2), "door 0 2",
             answers(0, -1, -1, -1, -1, 1)));
+        // Pairs that were none before or are none any more count as what they are now.
+        Edge.says("III", NEW_DOORS, Edge.rows(Edge.apart(3), "wish 0 2 1", answers(1, 0, 2, -1, -1, 1), "door 0 1", answers(1, 0, 2, -1, -1, 2),
+            "wall 0 1", answers(1, 0, 2, -1, -1, 1)));
+        Edge.says("III", NEW_DOORS, Edge.rows(Edge.apart(4), "wish 0 2 1", "wish 0 3 1", answers(2, 0, 2, 0, 3, 3), "door 0 1",
+            answers(2, 0, 2, 0, 3, 8), "stand 1 0", answers(2, 0, 2, 0, 3, 3)));
         Edge.says("III", NEW_DOORS, Edge.rows(Edge.apart(4), "wish 0 1 1", "wish 2 3 1", "wish 0 2 0", answers(2, 0, 1, 2, 3, 1), "wish 1 0 0",
             answers(-1, -1, -1, -1, -1, 0)));
         Edge.says("III", NEW_DOORS, Edge.rows(Edge.apart(3), "wish 0 2 1", "wish 0 1 0", answers(1, 0, 2, -1, -1, 1), "stand 2 0",
@@ -290,6 +295,9 @@ final class WantEdges {
     private static void promisesOfMeetings() {
         Edge.says("35", "Where TWO MEET: the HOUSE (what 0), when the later one COMES (1)", Edge.rows(Edge.line(3), "law |takes 7|", "force 0",
             "meet 0 2 0 -> 1", "meet 0 2 1 -> 7", "meet 0 1 0 -> 0", "meet 0 1 1 -> 7", "meet 2 2 0 -> 2", "meet 2 2 1 -> 0"));
+        Edge.says("35", "Where TWO MEET: the HOUSE (what 0), when the later one COMES (1)", Edge.rows(Edge.apart(12), "door 10 11", "door 9 11",
+            "meet 10 11 0 -> 10", "meet 10 11 1 -> 1", "meet 9 10 0 -> 11", "meet 9 10 1 -> 1", "meet 11 11 0 -> 11", "meet 0 0 0 -> 0",
+            "meet 0 11 0 -> -1", "meet 0 1 1 -> -1"));
         Edge.says("35", "NONE", Edge.rows(Edge.line(3), "house 7 0 1 1 0", "meet 0 3 0 -> -1", "meet 0 3 1 -> -1", "meet 0 2 -1 -> -1",
             "meet 0 2 2 -> -1", "meet 0 4 0 -> -1", "meet 4 0 1 -> -1", "meet 4 4 0 -> -1", "meet -1 0 0 -> -1", "meet 0 -1 1 -> -1",
             "meet 12 0 0 -> -1", "meet 0 2147483647 0 -> -1", "meet 0 2 2147483647 -> -1", "stand 2 0", "meet 0 2 0 -> -1",

@@ -7,7 +7,9 @@ import java.nio.file.Path;
 import java.util.ArrayList;
 import java.util.HashSet;
 import java.util.List;
+import java.util.Map;
 import java.util.Set;
+import java.util.TreeMap;
 import java.util.TreeSet;
 import java.util.regex.Matcher;
 import java.util.regex.Pattern;
@@ -113,11 +115,60 @@ public final class RulesTest {
         }
     }
 
+    private static final int DEEPEST = 8;
+    private static final Pattern METHOD = Pattern.compile(
+        "(?ms)^(    |        )(?:public |private |static |final )*[\\w\\[\\]]+ (\\w+)\\([^)]*\\) \\{\n(.*?)^\\1\\}");
+
+    /** Calls by their names: those of one name count as one method, which makes ways longer, never shorter. */
+    private static Map<String, Set<String>> callsOf(String code) {
+        Map<String, String> bodies = new TreeMap<>();
+        Matcher methods = METHOD.matcher(code);
+        while (methods.find()) {
+            bodies.merge(methods.group(2), methods.group(3), String::concat);
+        }
+        Map<String, Set<String>> calls = new TreeMap<>();
+        for (Map.Entry<String, String> body : bodies.entrySet()) {
+            Set<String> called = new TreeSet<>();
+            Matcher names = Pattern.compile("(?<!new )\\b(\\w+)\\(").matcher(body.getValue());
+            while (names.find()) {
+                if (bodies.containsKey(names.group(1))) {
+                    called.add(names.group(1));
+                }
+            }
+            calls.put(body.getKey(), called);
+        }
+        return calls;
+    }
+
+    private static int depth(Map<String, Set<String>> calls, String name, List<String> open) {
+        if (open.contains(name)) {
+            return 0;
+        }
+        open.add(name);
+        int deepest = 0;
+        for (String called : calls.get(name)) {
+            deepest = Math.max(deepest, depth(calls, called, open));
+        }
+        open.remove(open.size() - 1);
+        return deepest + 1;
+    }
+
+    /** Rule 11; law goes through the reader's recursion, which its brackets bound. */
+    private static void depths(String code) {
+        Map<String, Set<String>> calls = callsOf(code);
+        for (String call : FACE.replaceAll("\\d", "").split(" ")) {
+            check(calls.containsKey(call), "the source has no " + call);
+            int deep = call.equals("law") || !calls.containsKey(call) ? 0 : depth(calls, call, new ArrayList<>());
+            check(deep <= DEEPEST, call + " goes " + deep + " deep");
+        }
+    }
+
     public static void main(String[] args) throws Exception {
         String source = Files.readString(Path.of("src/main/java/CornerTown.java"));
         face();
         words(bare(source));
         lengths(source);
+        depths(bare(source));
         System.out.println(wrong == 0 ? "all rules that can be seen are kept" : wrong + " rules are not kept");
         if (wrong != 0) {
             System.exit(1);
