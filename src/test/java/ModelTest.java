@@ -11,6 +11,8 @@ import java.util.TreeMap;
 public final class ModelTest {
     static final int RUNS = 120;
     static final int CALLS = 512;
+    /** Each so manyth run begins with a town that is full. */
+    static final int FULL = 6;
 
     public static void main(String[] args) {
         int runs = args.length > 0 ? Integer.parseInt(args[0]) : RUNS;
@@ -22,8 +24,13 @@ public final class ModelTest {
             CornerTown town = new CornerTown();
             Model model = new Model();
             Calls calls = new Calls(random, town, model);
+            boolean full = run % FULL == FULL - 1;
             for (int i = 0; i < CALLS; i++) {
-                calls.next();
+                if (full && i < Calls.CROWD) {
+                    calls.crowd(i);
+                } else {
+                    calls.next();
+                }
                 seen.merge(calls.name, 1, Integer::sum);
                 if (calls.got != calls.due) {
                     wrong++;
@@ -125,6 +132,20 @@ public final class ModelTest {
             } else {
                 ask();
             }
+        }
+
+        static final int CROWD = 12;
+
+        /**
+         * Houses corner to corner, as on the squares of one colour, so that there are many ways to go; they are numbered
+         * across the town, so that the first way is not the one of next numbers.
+         */
+        void crowd(int i) {
+            int square = (i * 5 + style) % CROWD;
+            int x = square % 3 * 2 + square / 3 % 2;
+            int y = square / 3;
+            int r = pick(0, 9);
+            tell("house", town.house(x, y, 1, 1, r), model.house(x, y, 1, 1, r), x, y, 1, 1, r);
         }
 
         void build() {
